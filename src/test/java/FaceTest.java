@@ -79,6 +79,10 @@ public final class FaceTest {
             int m = c.getModifiers();
             CHECK.holds(c.getName() + " is static and does not show",
                     Modifier.isStatic(m) && !Modifier.isPublic(m) && !Modifier.isProtected(m));
+            for (Method inside : c.getDeclaredMethods()) {
+                CHECK.holds(c.getName() + "." + inside.getName() + " does not bear the name of a public method",
+                        !Set.of(Calls.NAMES).contains(inside.getName()));
+            }
         }
     }
 
