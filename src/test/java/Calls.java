@@ -1,4 +1,4 @@
-/** What tests use to make calls by their names, and to look at all that an object tells. */
+/** Calls by their names, so that tests can go through them all. */
 final class Calls {
     static final String[] NAMES = {"mark", "read", "lose", "told", "count", "det", "fit", "rest", "spread",
         "judge", "plan", "lot", "back", "mend", "gain", "state", "advice", "offset", "rule", "route", "bad"};
@@ -79,35 +79,5 @@ final class Calls {
             case "bad": return x.bad(a[0], a[1], a[2]);
             default: throw new IllegalArgumentException(name);
         }
-    }
-
-    /** All that the object tells, by calls that change nothing or that put back what they change. */
-    static String look(FieldAfterField x) {
-        StringBuilder seen = new StringBuilder();
-        for (int what = 0; what <= 6; what++) {
-            seen.append(x.count(what)).append(' ');
-        }
-        for (int m = 0; m < x.count(0); m++) {
-            for (int what = 0; what <= 7; what++) {
-                seen.append(x.told(m, what)).append(' ');
-            }
-        }
-        for (int tool = 0; tool < 4; tool++) {
-            for (int n = 0; n <= x.count(4); n++) {
-                seen.append(x.state(tool, n)).append(' ');
-            }
-            for (int layer = 0; layer < 6; layer++) {
-                int was = x.offset(tool, layer, 0);
-                x.offset(tool, layer, was);
-                seen.append(was).append(' ');
-            }
-        }
-        int gain = x.gain(1);
-        x.gain(gain);
-        int budget = x.rule(0, 0);
-        x.rule(0, budget);
-        int cap = x.rule(1, 1);
-        x.rule(1, cap);
-        return seen.append(gain).append(' ').append(budget).append(' ').append(cap).toString();
     }
 }

@@ -28,6 +28,10 @@ final class Check {
         return wrong;
     }
 
+    int asked() {
+        return asked;
+    }
+
     void end() {
         System.out.println(name + ": " + asked + " answers, " + wrong + " not as due");
         if (wrong != 0) {

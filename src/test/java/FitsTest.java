@@ -14,9 +14,6 @@ public final class FitsTest {
         dets();
         lostAndOutDoNotCount();
         doesNotStand();
-        refusals();
-        signsAndZero();
-        greatNumbers();
         judgeByBothWays();
         judgeLikeOnes();
         judgeLimit();
@@ -140,78 +137,6 @@ public final class FitsTest {
         x.read(4, 0, 0);
         CHECK.due("off the line: det(1)", x.det(1), 20);
         CHECK.due("off the line: det(2)", x.det(2), 20);
-    }
-
-    private static void refusals() {
-        FieldAfterField x = five();
-        CHECK.due("fit(-1, 0, 0, 0)", x.fit(-1, 0, 0, 0), OUTSIDE);
-        CHECK.due("fit(3, 0, 0, 0)", x.fit(3, 0, 0, 0), OUTSIDE);
-        CHECK.due("fit(1, -1, 0, 0)", x.fit(1, -1, 0, 0), OUTSIDE);
-        CHECK.due("fit(1, 2, 0, 0)", x.fit(1, 2, 0, 0), OUTSIDE);
-        CHECK.due("fit(1, 0, -1, 0)", x.fit(1, 0, -1, 0), OUTSIDE);
-        CHECK.due("fit(1, 0, 3, 0)", x.fit(1, 0, 3, 0), OUTSIDE);
-        CHECK.due("fit(2, 0, 3, 0)", x.fit(2, 0, 3, 0), OUTSIDE);
-        CHECK.due("fit(0, 0, 1, 0)", x.fit(0, 0, 1, 0), OUTSIDE);
-        CHECK.due("fit(1, 0, 0, -1)", x.fit(1, 0, 0, -1), OUTSIDE);
-        CHECK.due("fit(1, 0, 0, 2)", x.fit(1, 0, 0, 2), OUTSIDE);
-        CHECK.due("rest(-1, 0, 0, 0)", x.rest(-1, 0, 0, 0), OUTSIDE);
-        CHECK.due("rest(3, 0, 0, 0)", x.rest(3, 0, 0, 0), OUTSIDE);
-        CHECK.due("rest(1, -1, 0, 0)", x.rest(1, -1, 0, 0), OUTSIDE);
-        CHECK.due("rest(1, 2, 0, 0)", x.rest(1, 2, 0, 0), OUTSIDE);
-        CHECK.due("rest(1, 0, 0, -1)", x.rest(1, 0, 0, -1), OUTSIDE);
-        CHECK.due("rest(1, 0, 0, 2)", x.rest(1, 0, 0, 2), OUTSIDE);
-        CHECK.due("rest(1, 0, -1, 0)", x.rest(1, 0, -1, 0), UNKNOWN);
-        CHECK.due("rest(1, 0, 5, 0)", x.rest(1, 0, 5, 0), UNKNOWN);
-        CHECK.due("rest(3, 2, 5, 2)", x.rest(3, 2, 5, 2), UNKNOWN);
-        CHECK.due("spread(-1, 0, 0)", x.spread(-1, 0, 0), OUTSIDE);
-        CHECK.due("spread(3, 0, 0)", x.spread(3, 0, 0), OUTSIDE);
-        CHECK.due("spread(1, -1, 0)", x.spread(1, -1, 0), OUTSIDE);
-        CHECK.due("spread(1, 2, 0)", x.spread(1, 2, 0), OUTSIDE);
-        CHECK.due("spread(1, 0, -1)", x.spread(1, 0, -1), OUTSIDE);
-        CHECK.due("spread(1, 0, 2)", x.spread(1, 0, 2), OUTSIDE);
-        CHECK.due("judge(-1, 5)", x.judge(-1, 5), OUTSIDE);
-        CHECK.due("judge(3, 5)", x.judge(3, 5), OUTSIDE);
-        CHECK.due("judge(1, 0)", x.judge(1, 0), OUTSIDE);
-        CHECK.due("judge(1, 1000)", x.judge(1, 1000), OUTSIDE);
-        x.lose(0);
-        CHECK.due("rest of a lost one, outside", x.rest(1, 2, 0, 0), OUTSIDE);
-        FieldAfterField none = new FieldAfterField();
-        CHECK.due("none: fit(0, 0, 1, 0)", none.fit(0, 0, 1, 0), OUTSIDE);
-        CHECK.due("none: spread(0, 0, 2)", none.spread(0, 0, 2), OUTSIDE);
-        CHECK.due("none: judge(0, 1000)", none.judge(0, 1000), OUTSIDE);
-    }
-
-    private static void signsAndZero() {
-        FieldAfterField x = new FieldAfterField();
-        x.mark(0, 0, 0, 0);
-        x.mark(0, 0, 0, 0);
-        x.read(0, -1, 5);
-        x.read(1, -2, -5);
-        fraction("fit below 0", x.fit(0, 0, 0, 0), x.fit(0, 0, 0, 1), -3, 2);
-        fraction("fit of 0", x.fit(0, 1, 0, 0), x.fit(0, 1, 0, 1), 0, 1);
-        fraction("rest above 0", x.rest(0, 0, 0, 0), x.rest(0, 0, 0, 1), 1, 2);
-        fraction("rest below 0", x.rest(0, 0, 1, 0), x.rest(0, 0, 1, 1), -1, 2);
-        fraction("spread", x.spread(0, 0, 0), x.spread(0, 0, 1), 1, 2);
-        fraction("spread across", x.spread(0, 1, 0), x.spread(0, 1, 1), 50, 1);
-    }
-
-    private static void greatNumbers() {
-        FieldAfterField x = new FieldAfterField();
-        for (int m = 0; m < 12; m++) {
-            int f = m % 2 == 0 ? 5 : -5;
-            int g = m % 4 < 2 ? 5 : -5;
-            x.mark(f, g, f < 0 ? -3 : 3, g < 0 ? -3 : 3);
-            x.read(m, f == g ? 999 : -999, 999);
-        }
-        CHECK.due("great: det(1)", x.det(1), 1080000);
-        CHECK.due("great: det(2)", x.det(2), 12L * 108 * 108);
-        for (int model = 0; model <= 2; model++) {
-            fraction("great: spread(" + model + ", 0)", x.spread(model, 0, 0), x.spread(model, 0, 1), 11976012, 1);
-            fraction("great: spread(" + model + ", 1)", x.spread(model, 1, 0), x.spread(model, 1, 1), 0, 1);
-            fraction("great: rest(" + model + ", 0, 1)", x.rest(model, 0, 1, 0), x.rest(model, 0, 1, 1), -999, 1);
-        }
-        CHECK.due("great: judge(1, 999)", x.judge(1, 999), 0);
-        CHECK.due("great: judge(1, 998)", x.judge(1, 998) > 0 ? 1 : 0, 1);
     }
 
     private static void judgeByBothWays() {

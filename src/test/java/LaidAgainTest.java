@@ -1,6 +1,6 @@
 /** Promise 22: bad. */
 public final class LaidAgainTest {
-    private static final int OUTSIDE = -100002, NOT = -100003;
+    private static final int NOT = -100003;
     private static final Check CHECK = new Check("LaidAgainTest");
 
     public static void main(String[] args) {
@@ -10,7 +10,6 @@ public final class LaidAgainTest {
         eitherWay();
         marksThatCountAlone();
         byModel();
-        refusals();
         CHECK.end();
     }
 
@@ -110,19 +109,4 @@ public final class LaidAgainTest {
         bad(x, "the field", 2, 10, 0, 0, 0);
     }
 
-    private static void refusals() {
-        FieldAfterField none = new FieldAfterField();
-        CHECK.due("none: bad(0, 0, 0)", none.bad(0, 0, 0), NOT);
-        CHECK.due("none: bad(0, 1000, 0)", none.bad(0, 1000, 0), OUTSIDE);
-        FieldAfterField x = with(1, 2, 3);
-        CHECK.due("bad(-1, 0, 0)", x.bad(-1, 0, 0), OUTSIDE);
-        CHECK.due("bad(3, 0, 0)", x.bad(3, 0, 0), OUTSIDE);
-        CHECK.due("bad(0, -1, 0)", x.bad(0, -1, 0), OUTSIDE);
-        CHECK.due("bad(0, 1000, 0)", x.bad(0, 1000, 0), OUTSIDE);
-        CHECK.due("bad(0, 0, -1)", x.bad(0, 0, -1), OUTSIDE);
-        CHECK.due("bad(0, 0, 3)", x.bad(0, 0, 3), OUTSIDE);
-        CHECK.due("bad(1, 0, 0)", x.bad(1, 0, 0), NOT);
-        CHECK.due("bad(1, 0, 3)", x.bad(1, 0, 3), OUTSIDE);
-        CHECK.due("bad(0, 0, 0)", x.bad(0, 0, 0), 2);
-    }
 }

@@ -1,11 +1,10 @@
 /** Promises 13 to 18: lot, back, mend, gain, state, advice. */
 public final class LotsTest {
-    private static final int UNKNOWN = -100001, OUTSIDE = -100002, FULL = -100004;
+    private static final int UNKNOWN = -100001, OUTSIDE = -100002;
     private static final Check CHECK = new Check("LotsTest");
 
     public static void main(String[] args) {
         lots();
-        lastLot();
         backs();
         lateAsInTime();
         toolsApart();
@@ -13,9 +12,7 @@ public final class LotsTest {
         gains();
         mended();
         mendedTwice();
-        states();
         advices();
-        greatNumbers();
         CHECK.end();
     }
 
@@ -30,26 +27,6 @@ public final class LotsTest {
         CHECK.due("lot(4, 10000)", x.lot(4, 10000), UNKNOWN);
         CHECK.due("count(4)", x.count(4), 2);
         CHECK.due("lot(2, 0)", x.lot(2, 0), 2);
-    }
-
-    private static void lastLot() {
-        FieldAfterField x = new FieldAfterField();
-        for (int n = 0; n < 60; n++) {
-            CHECK.due("lot number " + n, x.lot(n % 4, 0), n);
-        }
-        CHECK.due("the 61st lot", x.lot(0, 0), FULL);
-        CHECK.due("the 61st lot, outside", x.lot(0, 10000), OUTSIDE);
-        CHECK.due("the 61st lot, unknown", x.lot(-1, 0), UNKNOWN);
-        CHECK.due("full: count(4)", x.count(4), 60);
-        CHECK.due("full: back(59, 16)", x.back(59, 16), 1);
-        CHECK.due("full: back(60, 16)", x.back(60, 16), UNKNOWN);
-        CHECK.due("full: state(3, 59)", x.state(3, 59), 0);
-        CHECK.due("full: state(3, 60)", x.state(3, 60), 8000);
-        CHECK.due("full: state(3, 61)", x.state(3, 61), OUTSIDE);
-        CHECK.due("full: advice(3)", x.advice(3), -8);
-        CHECK.due("full: mend(3)", x.mend(3), 1);
-        CHECK.due("full: state(3, 60), mended", x.state(3, 60), 0);
-        CHECK.due("full: advice(3), mended", x.advice(3), 0);
     }
 
     private static void backs() {
@@ -177,17 +154,6 @@ public final class LotsTest {
         }
     }
 
-    private static void states() {
-        FieldAfterField x = new FieldAfterField();
-        x.lot(0, 0);
-        CHECK.due("state(0, 0)", x.state(0, 0), 0);
-        CHECK.due("state(0, 1)", x.state(0, 1), 0);
-        CHECK.due("state(0, 2)", x.state(0, 2), OUTSIDE);
-        CHECK.due("state(0, -1)", x.state(0, -1), OUTSIDE);
-        CHECK.due("state(4, -1)", x.state(4, -1), UNKNOWN);
-        CHECK.due("state(-1, 0)", x.state(-1, 0), UNKNOWN);
-    }
-
     private static void advices() {
         FieldAfterField x = new FieldAfterField();
         x.lot(2, 0);
@@ -201,15 +167,4 @@ public final class LotsTest {
         CHECK.due("advice(4)", x.advice(4), UNKNOWN);
     }
 
-    private static void greatNumbers() {
-        FieldAfterField x = new FieldAfterField();
-        x.gain(16);
-        x.lot(0, -9999);
-        x.lot(0, 9999);
-        x.back(0, 9999);
-        x.back(1, -9999);
-        CHECK.due("great: state(0, 1)", x.state(0, 1), 19998000);
-        CHECK.due("great: state(0, 2)", x.state(0, 2), -19998000);
-        CHECK.due("great: advice(0)", x.advice(0), 19998);
-    }
 }

@@ -1,87 +1,15 @@
-/** Promises 1 to 6: a new object, mark, read, lose, told, count. */
+/** Promises 2 to 6: mark, read, lose, told, count. */
 public final class MarksTest {
-    private static final int UNKNOWN = -100001, OUTSIDE = -100002, FULL = -100004;
+    private static final int UNKNOWN = -100001, OUTSIDE = -100002;
     private static final Check CHECK = new Check("MarksTest");
 
     public static void main(String[] args) {
-        newObject();
-        objectsApart();
-        markBounds();
-        lastMark();
         reads();
         lost();
         told();
         counts();
         fieldsThatCount();
         CHECK.end();
-    }
-
-    private static void newObject() {
-        FieldAfterField x = new FieldAfterField();
-        for (int what = 0; what <= 6; what++) {
-            CHECK.due("new: count(" + what + ")", x.count(what), 0);
-        }
-        CHECK.due("new: told(0, 0)", x.told(0, 0), UNKNOWN);
-        CHECK.due("new: back(0, 0)", x.back(0, 0), UNKNOWN);
-        CHECK.due("new: state(3, 1)", x.state(3, 1), OUTSIDE);
-        for (int tool = 0; tool < 4; tool++) {
-            CHECK.due("new: state(" + tool + ", 0)", x.state(tool, 0), 0);
-            CHECK.due("new: advice(" + tool + ")", x.advice(tool), 0);
-            for (int layer = 0; layer < 6; layer++) {
-                CHECK.due("new: offset(" + tool + ", " + layer + ", 0)", x.offset(tool, layer, 0), 0);
-            }
-        }
-        CHECK.due("new: gain(8)", x.gain(8), 8);
-        CHECK.due("new: rule(0, 100)", x.rule(0, 100), 100);
-        CHECK.due("new: rule(1, 6)", x.rule(1, 6), 6);
-    }
-
-    private static void objectsApart() {
-        FieldAfterField x = new FieldAfterField();
-        FieldAfterField y = new FieldAfterField();
-        x.mark(1, 1, 1, 1);
-        x.lot(0, 5);
-        x.gain(3);
-        x.rule(0, 7);
-        x.offset(1, 1, 1);
-        CHECK.due("apart: count(0)", y.count(0), 0);
-        CHECK.due("apart: count(4)", y.count(4), 0);
-        CHECK.due("apart: gain(8)", y.gain(8), 8);
-        CHECK.due("apart: rule(0, 100)", y.rule(0, 100), 100);
-        CHECK.due("apart: offset(1, 1, 0)", y.offset(1, 1, 0), 0);
-    }
-
-    private static void markBounds() {
-        FieldAfterField x = new FieldAfterField();
-        int[] most = {5, 5, 3, 3};
-        for (int at = 0; at < 4; at++) {
-            for (int sign = -1; sign <= 1; sign += 2) {
-                int[] a = new int[4];
-                a[at] = sign * most[at];
-                int number = x.count(0);
-                CHECK.due(Calls.text("mark", a), Calls.call(x, "mark", a), number);
-                CHECK.due("told(" + number + ", " + at + ")", x.told(number, at), sign * most[at]);
-                a[at] = sign * (most[at] + 1);
-                CHECK.due(Calls.text("mark", a), Calls.call(x, "mark", a), OUTSIDE);
-                a[at] = sign > 0 ? Integer.MAX_VALUE : Integer.MIN_VALUE;
-                CHECK.due(Calls.text("mark", a), Calls.call(x, "mark", a), OUTSIDE);
-            }
-        }
-        CHECK.due("bounds: count(0)", x.count(0), 8);
-    }
-
-    private static void lastMark() {
-        FieldAfterField x = new FieldAfterField();
-        for (int m = 0; m < 12; m++) {
-            CHECK.due("mark number " + m, x.mark(0, 0, 0, 0), m);
-        }
-        CHECK.due("the 13th mark", x.mark(0, 0, 0, 0), FULL);
-        CHECK.due("the 13th mark, outside", x.mark(0, 0, 0, 4), OUTSIDE);
-        CHECK.due("full: count(0)", x.count(0), 12);
-        CHECK.due("full: read(11, 1, 2)", x.read(11, 1, 2), 1);
-        CHECK.due("full: read(12, 1, 2)", x.read(12, 1, 2), UNKNOWN);
-        CHECK.due("full: told(11, 4)", x.told(11, 4), 1);
-        CHECK.due("full: count(1)", x.count(1), 11);
     }
 
     private static void reads() {

@@ -1,6 +1,6 @@
 /** Promise 12: plan. */
 public final class PlanTest {
-    private static final int OUTSIDE = -100002, NOT = -100003;
+    private static final int NOT = -100003;
     private static final Check CHECK = new Check("PlanTest");
 
     public static void main(String[] args) {
@@ -9,7 +9,6 @@ public final class PlanTest {
         ofTheField();
         theFirstOfLikeOnes();
         lostAndOutOnesToo();
-        bounds();
         twelve();
         CHECK.end();
     }
@@ -76,20 +75,6 @@ public final class PlanTest {
         CHECK.due("plan with one out", x.plan(3, 1, 0), all);
         x.lose(1);
         CHECK.due("plan with one lost", x.plan(3, 1, 0), all);
-    }
-
-    private static void bounds() {
-        FieldAfterField x = with(new int[] {0, 1, 0}, new int[] {0, 0, 1});
-        CHECK.due("plan(0, 1, 0)", x.plan(0, 1, 0), OUTSIDE);
-        CHECK.due("plan(7, 1, 0)", x.plan(7, 1, 0), OUTSIDE);
-        CHECK.due("plan(3, -1, 0)", x.plan(3, -1, 0), OUTSIDE);
-        CHECK.due("plan(3, 3, 0)", x.plan(3, 3, 0), OUTSIDE);
-        CHECK.due("plan(3, 1, -1)", x.plan(3, 1, -1), OUTSIDE);
-        CHECK.due("plan(3, 1, 3)", x.plan(3, 1, 3), OUTSIDE);
-        CHECK.due("plan(6, 1, 3)", x.plan(6, 1, 3), OUTSIDE);
-        CHECK.due("plan(4, 0, 0)", x.plan(4, 0, 0), NOT);
-        CHECK.due("plan(3, 1, 0)", x.plan(3, 1, 0), 7);
-        CHECK.due("without marks", new FieldAfterField().plan(1, 0, 0), NOT);
     }
 
     private static void twelve() {

@@ -6,7 +6,6 @@ public final class ToolsTest {
     public static void main(String[] args) {
         offsets();
         rules();
-        routeBounds();
         leastSum();
         theFirstOfLikeOnes();
         budgetForEachStep();
@@ -67,22 +66,6 @@ public final class ToolsTest {
         CHECK.due("rule(-1, 1)", x.rule(-1, 1), OUTSIDE);
         CHECK.due("rule(0, 5) at last", x.rule(0, 5), 1998);
         CHECK.due("rule(1, 5) at last", x.rule(1, 5), 6);
-    }
-
-    private static void routeBounds() {
-        FieldAfterField x = new FieldAfterField();
-        CHECK.due("route(0, NONE)", x.route(0, NONE), OUTSIDE);
-        CHECK.due("route(7, NONE)", x.route(7, NONE), OUTSIDE);
-        CHECK.due("route(0, 0)", x.route(0, 0), OUTSIDE);
-        CHECK.due("route(least, NONE)", x.route(Integer.MIN_VALUE, NONE), OUTSIDE);
-        for (int n = 1; n <= 6; n++) {
-            CHECK.due("route(" + n + ", -2)", x.route(n, -2), OUTSIDE);
-            CHECK.due("route(" + n + ", NONE)", x.route(n, NONE), 0);
-            CHECK.due("route(" + n + ", " + (n - 1) + ")", x.route(n, n - 1), 0);
-            CHECK.due("route(" + n + ", " + n + ")", x.route(n, n), OUTSIDE);
-        }
-        x.rule(1, 1);
-        CHECK.due("route(6, 6), outside ahead of not", x.route(6, 6), OUTSIDE);
     }
 
     private static void leastSum() {
