@@ -90,11 +90,13 @@ public final class FaceTest {
         String text = Files.readString(Path.of("src/main/java/FieldAfterField.java"), StandardCharsets.ISO_8859_1);
         String code = text.replaceAll("(?s)/\\*.*?\\*/", " ").replaceAll("//[^\n]*", " ");
         String[] ruledOut = {"package", "throw", "throws", "try", "catch", "synchronized", "assert", "Thread",
-            "Random", "hashCode"};
+            "Random", "hashCode", "nanoTime", "currentTimeMillis"};
         for (String word : ruledOut) {
             Matcher found = Pattern.compile("\\b" + word + "\\b").matcher(code);
             CHECK.holds("the program does without " + word, !found.find());
         }
         CHECK.holds("the program has no method reference", !code.contains("::"));
+        CHECK.holds("the program has no lambda", !code.contains("->"));
+        CHECK.holds("the program uses no function whose name ends in Exact", !code.contains("Exact("));
     }
 }
