@@ -565,12 +565,17 @@ public final class FieldAfterField {
                 return;
             }
             for (int m = next; m <= marks.many - left; m++) {
-                int x = marks.secondTerm(model, m);
-                int y = marks.thirdTerm(model, m);
-                table.add(x, y, 1);
-                choose(marks, m + 1, left - 1, set | 1 << m);
-                table.add(x, y, -1);
+                chooseWith(marks, m, left, set);
             }
+        }
+
+        /** The sets that go on with mark m. */
+        private void chooseWith(Marks marks, int m, int left, int set) {
+            int x = marks.secondTerm(model, m);
+            int y = marks.thirdTerm(model, m);
+            table.add(x, y, 1);
+            choose(marks, m + 1, left - 1, set | 1 << m);
+            table.add(x, y, -1);
         }
 
         private void weigh(Marks marks, int set) {
@@ -656,18 +661,19 @@ public final class FieldAfterField {
         private final int[] used = new int[TOOLS];
         private int budget = 100;
         private int cap = LAYERS;
+        /** The least sum so far, NONE if there is no route yet. */
         private int bestSum;
 
         /** Whether there is a route of n layers. */
         private boolean make(int n) {
-            bestSum = Integer.MAX_VALUE;
+            bestSum = NONE;
             send(n, 0, 0);
-            return bestSum != Integer.MAX_VALUE;
+            return bestSum != NONE;
         }
 
         /** Goes through the routes by rising tools, so that the first of like ones stays. */
         private void send(int n, int layer, int sum) {
-            if (sum >= bestSum) {
+            if (bestSum != NONE && sum >= bestSum) {
                 return;
             }
             if (layer >= n) {
@@ -676,13 +682,18 @@ public final class FieldAfterField {
                 return;
             }
             for (int tool = 0; tool < TOOLS; tool++) {
-                int step = stepTo(layer, tool);
-                if (used[tool] < cap && step <= budget) {
-                    tools[layer] = tool;
-                    used[tool]++;
-                    send(n, layer + 1, sum + step);
-                    used[tool]--;
-                }
+                sendTo(tool, n, layer, sum);
+            }
+        }
+
+        /** The routes that go on with this tool, if the rules let them. */
+        private void sendTo(int tool, int n, int layer, int sum) {
+            int step = stepTo(layer, tool);
+            if (used[tool] < cap && step <= budget) {
+                tools[layer] = tool;
+                used[tool]++;
+                send(n, layer + 1, sum + step);
+                used[tool]--;
             }
         }
 

@@ -1,27 +1,20 @@
-import java.io.IOException;
 import java.lang.reflect.Constructor;
 import java.lang.reflect.Field;
 import java.lang.reflect.Method;
 import java.lang.reflect.Modifier;
-import java.nio.charset.StandardCharsets;
-import java.nio.file.Files;
-import java.nio.file.Path;
 import java.util.Set;
 import java.util.TreeSet;
-import java.util.regex.Matcher;
-import java.util.regex.Pattern;
 
-/** The public face of the document, and those rules of the language that can be told from outside. */
+/** The public face of the document. */
 public final class FaceTest {
     private static final Check CHECK = new Check("FaceTest");
     private static final int HIDDEN_OR_NOT = Modifier.PUBLIC | Modifier.PROTECTED | Modifier.PRIVATE;
 
-    public static void main(String[] args) throws IOException {
+    public static void main(String[] args) {
         constants();
         members();
         methods();
         nested();
-        source();
         CHECK.end();
     }
 
@@ -84,19 +77,5 @@ public final class FaceTest {
                         !Set.of(Calls.NAMES).contains(inside.getName()));
             }
         }
-    }
-
-    private static void source() throws IOException {
-        String text = Files.readString(Path.of("src/main/java/FieldAfterField.java"), StandardCharsets.ISO_8859_1);
-        String code = text.replaceAll("(?s)/\\*.*?\\*/", " ").replaceAll("//[^\n]*", " ");
-        String[] ruledOut = {"package", "throw", "throws", "try", "catch", "synchronized", "assert", "Thread",
-            "Random", "hashCode", "nanoTime", "currentTimeMillis"};
-        for (String word : ruledOut) {
-            Matcher found = Pattern.compile("\\b" + word + "\\b").matcher(code);
-            CHECK.holds("the program does without " + word, !found.find());
-        }
-        CHECK.holds("the program has no method reference", !code.contains("::"));
-        CHECK.holds("the program has no lambda", !code.contains("->"));
-        CHECK.holds("the program uses no function whose name ends in Exact", !code.contains("Exact("));
     }
 }
