@@ -18,7 +18,8 @@ public final class LanguageTest {
     private static final Set<String> LIBRARY = Set.of("Integer", "Long", "Math", "System", "Arrays", "String",
             "StringBuilder", "ArrayList", "List", "Iterator", "Iterable", "Comparable");
     private static final Pattern LIBRARY_FUNCTION = Pattern.compile(
-            "(Integer|Long|Math)\\.[a-z]\\w*\\(|System\\.arraycopy\\(|Arrays\\.(copyOf|copyOfRange|fill)\\(|List\\.of\\(");
+            "(Integer|Long|Math)\\.[a-z]\\w*\\(|System\\.arraycopy\\(|Arrays\\.(copyOf|copyOfRange|fill)\\("
+            + "|List\\.of\\(");
     private static final Pattern METHOD = Pattern.compile(
             "(?m)^ +((?:(?:public|private|static|final) )+)[\\w\\[\\]]+ (\\w+)\\([^)]*\\) \\{");
 
@@ -65,7 +66,8 @@ public final class LanguageTest {
         String[] ruledOut = {"package", "throw", "throws", "try", "catch", "synchronized", "assert", "Thread",
             "Random", "hashCode", "toString", "nanoTime", "currentTimeMillis"};
         for (String word : ruledOut) {
-            CHECK.holds("the program does without " + word, !Pattern.compile("\\b" + word + "\\b").matcher(code).find());
+            Matcher found = Pattern.compile("\\b" + word + "\\b").matcher(code);
+            CHECK.holds("the program does without " + word, !found.find());
         }
         CHECK.holds("the program has no method reference", !code.contains("::"));
         CHECK.holds("the program has no lambda", !code.contains("->"));
@@ -79,7 +81,8 @@ public final class LanguageTest {
         }
         Matcher name = Pattern.compile("\\b[A-Z]\\w*[a-z]\\w*\\b").matcher(code);
         while (name.find()) {
-            CHECK.holds(name.group() + " is a class of the program or one that may be used", known.contains(name.group()));
+            CHECK.holds(name.group() + " is a class of the program or one that may be used",
+                    known.contains(name.group()));
         }
         Matcher used = Pattern.compile("\\b[A-Z]\\w*[a-z]\\w*\\.\\w+\\(?").matcher(code);
         while (used.find()) {
@@ -129,7 +132,8 @@ public final class LanguageTest {
     /** Rule 12, and more: what is made is made with the object, so no call makes one. */
     private static void objects(List<Written> methods) {
         for (Written m : methods) {
-            CHECK.holds(m.name() + " makes no object", !Pattern.compile("\\bnew\\b|\\.clone\\(").matcher(m.body()).find());
+            Matcher made = Pattern.compile("\\bnew\\b|\\.clone\\(").matcher(m.body());
+            CHECK.holds(m.name() + " makes no object", !made.find());
         }
     }
 }
